@@ -984,6 +984,10 @@ public final class PromiseTest {
         x.train(1);
         x.train(2);
         is.due("digest(), three trains", x.digest(), mixed(x));
+        for (int lag = 3; lag <= 4; lag++) {
+            rule(x, 0, 2, lag);
+            is.due("digest(), LAG " + lag, x.digest(), mixed(x));
+        }
     }
 
     private static long mixed(PushedOver x) {
