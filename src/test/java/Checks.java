@@ -1,11 +1,26 @@
-/** Counts answers that are not the ones that are due, and tells each. */
+/** Counts answers that are not the ones that are due, and tells each with the promise it belongs to. */
 final class Checks {
     private static final int MOST_TOLD = 40;
     private final String name;
-    private int made = 0, wrong = 0;
+    private String about = "";
+    private int made = 0, wrong = 0, madeAhead = 0;
 
     Checks(String name) {
         this.name = name;
+    }
+
+    /** The calls from here on are about these words of the document. */
+    void sentence(int promise, String words) {
+        closeSentence();
+        about = "promise " + promise + ", \"" + words + "\"";
+    }
+
+    /** A sentence without any call behind it would look tested, so it is told as wrong. */
+    private void closeSentence() {
+        if (!about.isEmpty() && made == madeAhead) {
+            due("the test of this sentence makes calls", 0, 1);
+        }
+        madeAhead = made;
     }
 
     void due(String call, long got, long want) {
@@ -13,7 +28,8 @@ final class Checks {
         if (got != want) {
             wrong++;
             if (wrong <= MOST_TOLD) {
-                System.out.println(name + ": " + call + " answered " + got + ", due is " + want);
+                String where = about.isEmpty() ? name : name + ", " + about;
+                System.out.println(where + ": " + call + " answered " + got + ", due is " + want);
             }
         }
     }
@@ -27,6 +43,7 @@ final class Checks {
     }
 
     void end() {
+        closeSentence();
         System.out.println((made - wrong) + " passed, " + wrong + " failed");
         if (wrong != 0 || made == 0) {
             System.exit(1);

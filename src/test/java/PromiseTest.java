@@ -52,29 +52,6 @@ public final class PromiseTest {
         is.end();
     }
 
-    private static PushedOver with(String train, String hill) {
-        PushedOver x = new PushedOver();
-        for (char c : train.toCharArray()) {
-            x.type(0, c);
-        }
-        for (char c : hill.toCharArray()) {
-            x.type(1, c);
-        }
-        return x;
-    }
-
-    private static PushedOver with(String train, String hill, int pull, int push) {
-        PushedOver x = with(train, hill);
-        x.engine(0, 0, pull);
-        x.engine(1, 0, push);
-        return x;
-    }
-
-    private static void rule(PushedOver x, int engine, int rule, int lag) {
-        x.engine(engine, 1, rule);
-        x.engine(engine, 2, lag);
-    }
-
     // Promise 1
     private static void newObject() {
         PushedOver x = new PushedOver();
@@ -123,7 +100,7 @@ public final class PromiseTest {
 
     // Promise 3
     private static void wipe() {
-        PushedOver x = with("123", "4b5");
+        PushedOver x = Built.with("123", "4b5");
         is.due("wipe(0)", x.wipe(0), 3);
         is.due("count(0)", x.count(0), 0);
         is.due("count(3) stays", x.count(3), 3);
@@ -138,7 +115,7 @@ public final class PromiseTest {
 
     // Promise 4
     private static void undo() {
-        PushedOver x = with("12", "4b");
+        PushedOver x = Built.with("12", "4b");
         is.due("undo(0)", x.undo(0), 1);
         is.due("wagon(0)", x.wagon(0), 1);
         is.due("wagon(1)", x.wagon(1), BAD);
@@ -152,13 +129,13 @@ public final class PromiseTest {
 
     // Promise 5
     private static void faultOfTrain() {
-        is.due("fault of ''", with("", "").fault(0), NONE);
-        is.due("fault of 123456789123", with("123456789123", "").fault(0), NONE);
-        is.due("fault of 0", with("0", "").fault(0), 0);
-        is.due("fault of 12:3:", with("12:3:", "").fault(0), 2);
-        is.due("fault of 1/", with("1/", "").fault(0), 1);
-        is.due("fault of 1b", with("1b", "").fault(0), 1);
-        PushedOver x = with("12x", "");
+        is.due("fault of ''", Built.with("", "").fault(0), NONE);
+        is.due("fault of 123456789123", Built.with("123456789123", "").fault(0), NONE);
+        is.due("fault of 0", Built.with("0", "").fault(0), 0);
+        is.due("fault of 12:3:", Built.with("12:3:", "").fault(0), 2);
+        is.due("fault of 1/", Built.with("1/", "").fault(0), 1);
+        is.due("fault of 1b", Built.with("1b", "").fault(0), 1);
+        PushedOver x = Built.with("12x", "");
         is.due("WAGONS with a fault", x.count(0), 0);
         is.due("WHOLE with a fault", x.count(5), 0);
         is.due("bytes with a fault", x.count(2), 3);
@@ -169,23 +146,23 @@ public final class PromiseTest {
 
     // Promise 5
     private static void faultOfHill() {
-        is.due("fault of no hill", with("", "").fault(1), NONE);
-        is.due("fault of 0b9", with("", "0b9").fault(1), NONE);
-        is.due("fault of b", with("", "b").fault(1), 0);
-        is.due("fault of 1bb", with("", "1bb").fault(1), 2);
-        is.due("fault of 1B", with("", "1B").fault(1), 1);
-        is.due("fault of 12/", with("", "12/").fault(1), 2);
-        is.due("fault of 12:", with("", "12:").fault(1), 2);
+        is.due("fault of no hill", Built.with("", "").fault(1), NONE);
+        is.due("fault of 0b9", Built.with("", "0b9").fault(1), NONE);
+        is.due("fault of b", Built.with("", "b").fault(1), 0);
+        is.due("fault of 1bb", Built.with("", "1bb").fault(1), 2);
+        is.due("fault of 1B", Built.with("", "1B").fault(1), 1);
+        is.due("fault of 12/", Built.with("", "12/").fault(1), 2);
+        is.due("fault of 12:", Built.with("", "12:").fault(1), 2);
         String sixteen = "0123456789012345";
-        is.due("fault of 16 places", with("", sixteen).fault(1), NONE);
-        is.due("fault of 16 places, b", with("", sixteen + "b").fault(1), NONE);
-        is.due("fault of 16 places, bb", with("", sixteen + "bb").fault(1), 17);
-        is.due("fault of 17 places", with("", sixteen + "6").fault(1), 16);
-        is.due("fault of 16 places, b, one more", with("", sixteen + "b6b").fault(1), 17);
-        PushedOver x = with("1", "1b".repeat(16));
+        is.due("fault of 16 places", Built.with("", sixteen).fault(1), NONE);
+        is.due("fault of 16 places, b", Built.with("", sixteen + "b").fault(1), NONE);
+        is.due("fault of 16 places, bb", Built.with("", sixteen + "bb").fault(1), 17);
+        is.due("fault of 17 places", Built.with("", sixteen + "6").fault(1), 16);
+        is.due("fault of 16 places, b, one more", Built.with("", sixteen + "b6b").fault(1), 17);
+        PushedOver x = Built.with("1", "1b".repeat(16));
         is.due("fault of 16 bends", x.fault(1), NONE);
         is.due("BENDS", x.count(6), 16);
-        PushedOver y = with("5", "9b9bx");
+        PushedOver y = Built.with("5", "9b9bx");
         is.due("PLACES with a fault", y.count(1), 0);
         is.due("BENDS with a fault", y.count(6), 0);
         is.due("NEEDED with a fault", y.minute(0, 0), 0);
@@ -194,19 +171,19 @@ public final class PromiseTest {
 
     // Promise 6
     private static void wagon() {
-        PushedOver x = with("91", "");
+        PushedOver x = Built.with("91", "");
         is.due("wagon(0)", x.wagon(0), 9);
         is.due("wagon(1)", x.wagon(1), 1);
         is.due("wagon(2)", x.wagon(2), BAD);
         is.due("wagon(-1)", x.wagon(-1), BAD);
         is.due("wagon(least)", x.wagon(LEAST), BAD);
         is.due("wagon(most)", x.wagon(MOST), BAD);
-        is.due("wagon(11)", with("111111111118", "").wagon(11), 8);
+        is.due("wagon(11)", Built.with("111111111118", "").wagon(11), 8);
     }
 
     // Promise 7
     private static void hill() {
-        PushedOver x = with("", "0b93b");
+        PushedOver x = Built.with("", "0b93b");
         int[][] due = {{0, 1}, {9, 0}, {3, 1}};
         for (int place = 0; place < 3; place++) {
             is.due("hill(" + place + ", 0)", x.hill(place, 0), due[place][0]);
@@ -235,7 +212,7 @@ public final class PromiseTest {
         is.due("engine(-1, 0, 1)", x.engine(-1, 0, 1), BAD);
         is.due("engine(0, -1, 1)", x.engine(0, -1, 1), BAD);
         is.due("engine(0, 3, 1)", x.engine(0, 3, 1), BAD);
-        PushedOver y = with("1", "", 11, 22);
+        PushedOver y = Built.with("1", "", 11, 22);
         is.due("the front gives its own", y.gives(0, 0), 11);
         is.due("the back gives its own", y.gives(0, 1), 22);
     }
@@ -258,18 +235,18 @@ public final class PromiseTest {
 
     // Promise 10
     private static void givesByRules() {
-        PushedOver x = with("5", "9", 30, 10);
-        rule(x, 1, 1, 2);
+        PushedOver x = Built.with("5", "9", 30, 10);
+        Built.rule(x, 1, 1, 2);
         dueRow("leans", x, 1, 10, 10, 15, 15);
         x.engine(0, 0, 100);
         dueRow("leans, 0 at least", x, 1, 10, 10, 0, 0);
         x.engine(0, 0, 20);
         x.engine(1, 0, 7);
-        rule(x, 1, 3, 1);
+        Built.rule(x, 1, 3, 1);
         dueRow("goes half", x, 1, 7, 16, 20, 22, 23, 24, 24, 24);
-        rule(x, 1, 2, 3);
+        Built.rule(x, 1, 2, 3);
         dueRow("matches", x, 1, 7, 7, 7, 20, 20);
-        rule(x, 1, 0, 3);
+        Built.rule(x, 1, 0, 3);
         dueRow("gives", x, 1, 7, 7, 7, 7, 7);
         int[][] wrong = {{-1, 0}, {40, 0}, {LEAST, 1}, {MOST, 1}, {0, -1}, {0, 2}};
         for (int[] w : wrong) {
@@ -279,18 +256,18 @@ public final class PromiseTest {
 
     // Promise 10
     private static void givesLate() {
-        PushedOver x = with("5", "9", 30, 10);
-        rule(x, 0, 2, 2);
-        rule(x, 1, 2, 3);
+        PushedOver x = Built.with("5", "9", 30, 10);
+        Built.rule(x, 0, 2, 2);
+        Built.rule(x, 1, 2, 3);
         dueRow("front matches, 2 ago", x, 0, 30, 30, 10, 10, 10, 30, 30, 10);
         dueRow("back matches, 3 ago", x, 1, 10, 10, 10, 30, 30, 10, 10, 10);
-        PushedOver y = with("5", "19", 0, 0);
+        PushedOver y = Built.with("5", "19", 0, 0);
         y.set(4, 10);
-        rule(y, 0, 1, 1);
+        Built.rule(y, 0, 1, 1);
         // What is NEEDED is that of the minute itself: place 0 needs 5, place 1 needs 45.
         dueRow("leans on this minute's need", y, 0, 0, 45, 45);
-        PushedOver z = with("", "9", 50, 60);
-        rule(z, 0, 1, 5);
+        PushedOver z = Built.with("", "9", 50, 60);
+        Built.rule(z, 0, 1, 5);
         dueRow("leans without wagons", z, 0, 50, 50, 50, 50, 50, 0, 0);
     }
 
@@ -302,7 +279,7 @@ public final class PromiseTest {
 
     // Promise 11
     private static void minuteNeededAndPlace() {
-        PushedOver x = with("12", "071", 0, 0);
+        PushedOver x = Built.with("12", "071", 0, 0);
         x.set(4, 20);
         // Nothing is given: 20 in minute 0 and, where nothing is needed, 20 again in minute 1.
         int[] needed = {0, 3, 3, 3}, place = {0, 2, NONE, NONE}, speed = {20, 20, 19, 18};
@@ -311,14 +288,14 @@ public final class PromiseTest {
             is.due("minute(" + m + ", 1)", x.minute(m, 1), speed[m]);
             is.due("minute(" + m + ", 2)", x.minute(m, 2), place[m]);
         }
-        PushedOver y = with("12", "071", 0, 0);
+        PushedOver y = Built.with("12", "071", 0, 0);
         // Tenths gone: 0, 5, 10, 15 (slower from place 1 on), 19, 22.
         int[] places = {0, 0, 1, 1, 1, 2};
         for (int m = 0; m < places.length; m++) {
             is.due("place in minute " + m, y.minute(m, 2), places[m]);
         }
-        is.due("no places: PLACE", with("12", "").minute(0, 2), NONE);
-        is.due("no places: NEEDED", with("12", "").minute(9, 0), 0);
+        is.due("no places: PLACE", Built.with("12", "").minute(0, 2), NONE);
+        is.due("no places: NEEDED", Built.with("12", "").minute(9, 0), 0);
         int[][] wrong = {{-1, 0}, {40, 0}, {MOST, 0}, {0, -1}, {0, 3}};
         for (int[] w : wrong) {
             is.due("minute(" + w[0] + ", " + w[1] + ")", y.minute(w[0], w[1]), BAD);
@@ -327,7 +304,7 @@ public final class PromiseTest {
 
     // Promise 11
     private static void minuteSpeed() {
-        PushedOver x = with("9", "9", 0, 0);
+        PushedOver x = Built.with("9", "9", 0, 0);
         for (int m = 0; m < 40; m++) {
             is.due("slower, minute " + m, x.minute(m, 1), Math.max(0, 5 - m));
             is.due("as steep beyond, minute " + m, x.minute(m, 0), 81);
@@ -345,20 +322,20 @@ public final class PromiseTest {
 
     // Promise 12
     private static void strain() {
-        PushedOver x = with("123", "", 100, 50);
+        PushedOver x = Built.with("123", "", 100, 50);
         int[] due = {100, 75, 25, -50};
         for (int k = 0; k < due.length; k++) {
             is.due("strain(0, " + k + ", 0)", x.strain(0, k, 0), due[k]);
             is.due("strain(0, " + k + ", 1)", x.strain(0, k, 1), 1);
         }
-        PushedOver y = with("46", "", 10, 3);
+        PushedOver y = Built.with("46", "", 10, 3);
         is.due("10 less 13 times 4 by 10, above", y.strain(5, 1, 0), 24);
         is.due("10 less 13 times 4 by 10, below", y.strain(5, 1, 1), 5);
         y.engine(0, 0, 3);
         y.engine(1, 0, 10);
         is.due("3 less 13 times 4 by 10, above", y.strain(39, 1, 0), -11);
         is.due("3 less 13 times 4 by 10, below", y.strain(39, 1, 1), 5);
-        PushedOver zero = with("11", "", 7, 7);
+        PushedOver zero = Built.with("11", "", 7, 7);
         is.due("0, above", zero.strain(0, 1, 0), 0);
         is.due("0, below", zero.strain(0, 1, 1), 1);
         int[][] wrong = {{-1, 0, 0}, {40, 0, 0}, {0, -1, 0}, {0, 3, 0}, {0, 0, -1}, {0, 0, 2}, {LEAST, MOST, 0}};
@@ -373,7 +350,7 @@ public final class PromiseTest {
 
     // Promise 13
     private static void slack() {
-        PushedOver x = with("11", "", 100, 100);
+        PushedOver x = Built.with("11", "", 100, 100);
         is.due("slack at a strain of 0", x.slack(0), 1);
         x.engine(0, 0, 101);
         is.due("slack below 0", x.slack(0), 2);
@@ -385,20 +362,20 @@ public final class PromiseTest {
         is.due("slack(40)", x.slack(40), BAD);
         is.due("slack(0), no wagons", new PushedOver().slack(0), NOT);
         is.due("slack(40), no wagons", new PushedOver().slack(40), BAD);
-        PushedOver y = with("11", "", 100, 0);
-        rule(y, 1, 2, 3);
+        PushedOver y = Built.with("11", "", 100, 0);
+        Built.rule(y, 1, 2, 3);
         is.due("slack, nothing pushed yet", y.slack(2), 2);
         is.due("slack, pushed by then", y.slack(3), 1);
     }
 
     // Promise 14
     private static void torn() {
-        PushedOver x = with("1", "", 300, 999);
+        PushedOver x = Built.with("1", "", 300, 999);
         is.due("as much as TEAR", x.torn(), NONE);
         x.set(0, 299);
         is.due("more than TEAR", x.torn(), 0);
         x.set(0, 300);
-        rule(x, 0, 2, 4);
+        Built.rule(x, 0, 2, 4);
         is.due("torn late", x.torn(), 4);
         x.set(0, 999);
         is.due("strong", x.torn(), NONE);
@@ -409,7 +386,7 @@ public final class PromiseTest {
 
     // Promise 15
     private static void off() {
-        PushedOver x = with("11", "0b", 0, 40);
+        PushedOver x = Built.with("11", "0b", 0, 40);
         is.due("as much as HOLD", x.off(0), NONE);
         is.due("as much as HOLD: no wagon", x.off(1), NONE);
         x.engine(1, 0, 41);
@@ -417,30 +394,30 @@ public final class PromiseTest {
         is.due("more than HOLD: wagon", x.off(1), 1);
         x.set(1, 21);
         is.due("held better", x.off(0), NONE);
-        PushedOver y = with("219", "0b", 0, 120);
+        PushedOver y = Built.with("219", "0b", 0, 120);
         // Squeezed ahead of them by 0, 20 and 30: HOLD times WEIGHT is 38, 19 and 171.
         y.set(1, 19);
         is.due("the light one: wagon", y.off(1), 1);
         y.set(1, 20);
         is.due("as much as it holds", y.off(1), NONE);
-        PushedOver two = with("111", "0b", 0, 999);
+        PushedOver two = Built.with("111", "0b", 0, 999);
         is.due("the first of two wagons", two.off(1), 1);
         is.due("off(2)", x.off(2), BAD);
         is.due("off(-1)", x.off(-1), BAD);
-        is.due("no wagons", with("", "0b", 0, 999).off(0), NONE);
+        is.due("no wagons", Built.with("", "0b", 0, 999).off(0), NONE);
     }
 
     // Promise 15
     private static void offAtBendsAlone() {
-        is.due("no bend", with("11", "000", 0, 999).off(0), NONE);
-        PushedOver x = with("11", "00b", 0, 999);
+        is.due("no bend", Built.with("11", "000", 0, 999).off(0), NONE);
+        PushedOver x = Built.with("11", "00b", 0, 999);
         is.due("at the bend", x.off(0), 2);
         x.set(4, 20);
         is.due("over it at once", x.off(0), NONE);
-        PushedOver y = with("11", "0b", 100, 0);
+        PushedOver y = Built.with("11", "0b", 100, 0);
         y.set(4, 10);
-        rule(y, 0, 2, 1);
-        rule(y, 1, 2, 1);
+        Built.rule(y, 0, 2, 1);
+        Built.rule(y, 1, 2, 1);
         is.due("beyond the last place there is no bend", y.off(0), NONE);
         y.type(1, '0');
         is.due("nor in a place without one", y.off(0), NONE);
@@ -451,7 +428,7 @@ public final class PromiseTest {
 
     // Promise 16
     private static void over() {
-        PushedOver x = with("1", "0", 0, 0);
+        PushedOver x = Built.with("1", "0", 0, 0);
         x.set(4, 10);
         is.due("a place in a minute", x.over(), 1);
         x.set(4, 9);
@@ -461,7 +438,7 @@ public final class PromiseTest {
         x.wipe(1);
         x.set(4, 20);
         is.due("no places", x.over(), NONE);
-        PushedOver y = with("", "000", 0, 0);
+        PushedOver y = Built.with("", "000", 0, 0);
         y.set(4, 1);
         is.due("no wagons, slow", y.over(), 30);
         y.type(1, '0');
@@ -470,41 +447,41 @@ public final class PromiseTest {
 
     /** A train whose front gives what is needed from the minute on in which the last place comes. */
     private static PushedOver leaning(String hill, int speed) {
-        PushedOver x = with("1", hill, 0, 0);
+        PushedOver x = Built.with("1", hill, 0, 0);
         x.set(4, speed);
-        rule(x, 0, 1, 1);
+        Built.rule(x, 0, 1, 1);
         return x;
     }
 
     // Promise 17
     private static void settles() {
-        is.due("always the same", with("1", "5").settles(), 0);
-        PushedOver x = with("1", "", 100, 0);
-        rule(x, 1, 2, 5);
+        is.due("always the same", Built.with("1", "5").settles(), 0);
+        PushedOver x = Built.with("1", "", 100, 0);
+        Built.rule(x, 1, 2, 5);
         is.due("matches, 5 ago", x.settles(), 5);
         x.engine(1, 0, 100);
         is.due("matches what it gave", x.settles(), 0);
         is.due("minute 30", leaning("0001", 1).settles(), 30);
         PushedOver y = leaning("0".repeat(15) + "1", 4);
         is.due("minute 38 at most", y.settles(), 38);
-        rule(y, 1, 2, 1);
+        Built.rule(y, 1, 2, 1);
         is.due("minute 39 is too late", y.settles(), NONE);
-        PushedOver z = with("1", "", 100, 0);
-        rule(z, 0, 2, 1);
-        rule(z, 1, 2, 1);
+        PushedOver z = Built.with("1", "", 100, 0);
+        Built.rule(z, 0, 2, 1);
+        Built.rule(z, 1, 2, 1);
         is.due("to and fro", z.settles(), NONE);
     }
 
     // Promise 18
     private static void swings() {
-        is.due("always the same", with("1", "5").swings(), 1);
-        PushedOver x = with("1", "", 100, 0);
+        is.due("always the same", Built.with("1", "5").swings(), 1);
+        PushedOver x = Built.with("1", "", 100, 0);
         for (int lag = 1; lag <= 5; lag++) {
-            rule(x, 0, 2, lag);
-            rule(x, 1, 2, lag);
+            Built.rule(x, 0, 2, lag);
+            Built.rule(x, 1, 2, lag);
             is.due("both match, " + lag + " ago", x.swings(), 2 * lag);
         }
-        rule(x, 0, 2, 4);
+        Built.rule(x, 0, 2, 4);
         is.due("4 and 5 ago", x.swings(), 9);
         is.due("settled in minute 20", leaning("001", 1).swings(), 1);
         is.due("settled in minute 30", leaning("0001", 1).swings(), NONE);
@@ -512,14 +489,14 @@ public final class PromiseTest {
         PushedOver half = leaning("001", 1);
         half.wipe(0);
         half.type(0, '3');
-        rule(half, 0, 3, 1);
+        Built.rule(half, 0, 3, 1);
         is.due("half and half: settled in minute 21", half.settles(), 21);
         is.due("minute 20 is the first that counts", half.swings(), NONE);
-        PushedOver turned = with("9", "9", 0, 50);
-        rule(turned, 0, 1, 3);
-        rule(turned, 1, 2, 3);
+        PushedOver turned = Built.with("9", "9", 0, 50);
+        Built.rule(turned, 0, 1, 3);
+        Built.rule(turned, 1, 2, 3);
         is.due("turned over every 6 minutes", turned.swings(), 12);
-        rule(turned, 0, 1, 4);
+        Built.rule(turned, 0, 1, 4);
         is.due("turned over every 7 minutes", turned.swings(), NONE);
         is.due("settled in minute 25", leaning("000001", 2).swings(), NONE);
     }
@@ -528,12 +505,12 @@ public final class PromiseTest {
     private static void does() {
         int[][] cases = {{100, 50, 2, 3}, {0, 0, 0, 1}, {0, 5, 0, 1}, {5, 0, 1, 1}, {999, 998, 999, 1997}};
         for (int[] c : cases) {
-            PushedOver x = with("1", "", c[0], c[1]);
+            PushedOver x = Built.with("1", "", c[0], c[1]);
             is.due("does(0) of " + c[0] + " and " + c[1], x.does(0), c[2]);
             is.due("does(1) of " + c[0] + " and " + c[1], x.does(1), c[3]);
         }
-        PushedOver x = with("", "", 100, 0);
-        rule(x, 1, 2, 4);
+        PushedOver x = Built.with("", "", 100, 0);
+        Built.rule(x, 1, 2, 4);
         // The back gives 100 in 36 minutes of 40.
         is.due("does(0), late", x.does(0), 10);
         is.due("does(1), late", x.does(1), 19);
@@ -543,7 +520,7 @@ public final class PromiseTest {
 
     // Promise 20
     private static void start() {
-        PushedOver x = with("11", "", 100, 100);
+        PushedOver x = Built.with("11", "", 100, 100);
         is.due("together", x.start(0, 0), 0);
         is.due("together, later", x.start(9, 9), 0);
         is.due("the back alone", x.start(9, 0), 2);
@@ -564,7 +541,7 @@ public final class PromiseTest {
         x.set(0, 999);
         x.engine(0, 0, 999);
         is.due("more than 999", x.start(8, 9), 1);
-        is.due("no wagons", with("", "", 999, 999).start(0, 9), 0);
+        is.due("no wagons", Built.with("", "", 999, 999).start(0, 9), 0);
         int[][] wrong = {{-1, 0}, {10, 0}, {0, -1}, {0, 10}, {LEAST, MOST}};
         for (int[] w : wrong) {
             is.due("start(" + w[0] + ", " + w[1] + ")", x.start(w[0], w[1]), BAD);
@@ -573,13 +550,13 @@ public final class PromiseTest {
 
     // Promise 21
     private static void safe() {
-        PushedOver x = with("11", "", 100, 100);
+        PushedOver x = Built.with("11", "", 100, 100);
         is.due("not the back alone", x.safe(0), 55);
         is.due("not the back alone, least", x.safe(1), 0);
         x.set(0, 99);
         is.due("no pair", x.safe(0), 0);
         is.due("no pair, least", x.safe(1), NONE);
-        PushedOver y = with("1", "", 301, 0);
+        PushedOver y = Built.with("1", "", 301, 0);
         is.due("the back alone, always", y.safe(0), 45);
         is.due("the back alone, least", y.safe(1), 10);
         is.due("no wagons", new PushedOver().safe(0), 100);
@@ -589,13 +566,13 @@ public final class PromiseTest {
 
     // Promise 22
     private static void order() {
-        PushedOver x = with("21", "", 0, 60);
+        PushedOver x = Built.with("21", "", 0, 60);
         is.due("the light one ahead", x.order(0), 1);
         is.due("the heavy one behind", x.order(1), 0);
         is.due("no third one", x.order(2), NONE);
         x.engine(1, 0, 0);
         is.due("no squeeze: least row", x.order(0), 0);
-        PushedOver six = with("111112", "", 0, 600);
+        PushedOver six = Built.with("111112", "", 0, 600);
         int[] due = {0, 1, 2, 3, 4, 5};
         for (int i = 0; i < 6; i++) {
             is.due("order(" + i + ") of 111112", six.order(i), due[i]);
@@ -605,17 +582,17 @@ public final class PromiseTest {
         dueOrder("4321", 100, 3, 2, 1, 0);
         // The heaviest one has to be the last; the least row in which no other one is squeezed more.
         dueOrder("654321", 42, 4, 5, 2, 3, 1, 0);
-        PushedOver seven = with("1111111", "");
+        PushedOver seven = Built.with("1111111", "");
         is.due("seven wagons", seven.order(0), NONE);
         seven.undo(0);
         is.due("six wagons again", seven.order(5), 5);
         is.due("order(6)", seven.order(6), BAD);
         is.due("order(-1)", seven.order(-1), BAD);
-        is.due("order(6) of seven", with("1111111", "").order(6), BAD);
+        is.due("order(6) of seven", Built.with("1111111", "").order(6), BAD);
     }
 
     private static void dueOrder(String train, int push, int... due) {
-        PushedOver x = with(train, "", 0, push);
+        PushedOver x = Built.with(train, "", 0, push);
         for (int i = 0; i < due.length; i++) {
             is.due("order(" + i + ") of " + train, x.order(i), due[i]);
         }
@@ -623,7 +600,7 @@ public final class PromiseTest {
 
     // Promise 23
     private static void squeeze() {
-        PushedOver x = with("21", "", 0, 60);
+        PushedOver x = Built.with("21", "", 0, 60);
         is.due("20 by 2, above", x.squeeze(0), 10);
         is.due("20 by 2, below", x.squeeze(1), 1);
         x.engine(1, 0, 61);
@@ -633,9 +610,9 @@ public final class PromiseTest {
         x.engine(0, 0, 999);
         is.due("pulled: above", x.squeeze(0), 0);
         is.due("pulled: below", x.squeeze(1), 1);
-        is.due("of 4321", with("4321", "", 0, 100).squeeze(0), 15);
-        is.due("of 654321", with("654321", "", 0, 42).squeeze(0), 5);
-        PushedOver seven = with("1111111", "", 0, 999);
+        is.due("of 4321", Built.with("4321", "", 0, 100).squeeze(0), 15);
+        is.due("of 654321", Built.with("654321", "", 0, 42).squeeze(0), 5);
+        PushedOver seven = Built.with("1111111", "", 0, 999);
         is.due("seven, above", seven.squeeze(0), 0);
         is.due("seven, below", seven.squeeze(1), 1);
         is.due("none, below", new PushedOver().squeeze(1), 1);
@@ -672,26 +649,17 @@ public final class PromiseTest {
         is.due("back() of none", x.back(), NOT);
     }
 
-    private static PushedOver withSheet(int form, int... items) {
-        PushedOver x = new PushedOver();
-        x.sheet(0, form, items.length);
-        for (int i = 0; i < items.length; i++) {
-            x.lay(0, form, i, items[i]);
-        }
-        return x;
-    }
-
     // Promise 26
     private static void read() {
-        PushedOver x = withSheet(1, 0, 999, 1000, 5);
+        PushedOver x = Built.withSheet(1, 0, 999, 1000, 5);
         is.due("read(0), up to 1000", x.read(0), 2);
         is.due("trains", x.count(4), 2);
         is.due("read(0) adds", x.read(0), 2);
         is.due("trains, more", x.count(4), 4);
-        is.due("up to one below 0", withSheet(0, 3, 4, 5, -1, 6).read(0), 3);
-        is.due("the first is wrong", withSheet(2, 1000, 1).read(0), 0);
-        is.due("no items", withSheet(2).read(0), 0);
-        PushedOver y = withSheet(2, new int[20]);
+        is.due("up to one below 0", Built.withSheet(0, 3, 4, 5, -1, 6).read(0), 3);
+        is.due("the first is wrong", Built.withSheet(2, 1000, 1).read(0), 0);
+        is.due("no items", Built.withSheet(2).read(0), 0);
+        PushedOver y = Built.withSheet(2, new int[20]);
         y.train(7);
         is.due("until there are twelve", y.read(0), 11);
         is.due("twelve", y.count(4), 12);
@@ -702,17 +670,9 @@ public final class PromiseTest {
         is.due("read(-1)", y.read(-1), BAD);
     }
 
-    private static PushedOver withDay(int... minutes) {
-        PushedOver x = new PushedOver();
-        for (int m : minutes) {
-            x.train(m);
-        }
-        return x;
-    }
-
     // Promise 27
     private static void late() {
-        PushedOver x = withDay(20, 0, 3);
+        PushedOver x = Built.withDay(20, 0, 3);
         // One pusher is busy for 15 minutes: 0 at 0, 3 at 15, 20 at 30.
         is.due("late(1, 0)", x.late(1, 0), 22);
         is.due("late(1, 1)", x.late(1, 1), 12);
@@ -724,14 +684,14 @@ public final class PromiseTest {
         is.due("late(2, 1), slow", x.late(2, 1), 11);
         is.due("late(3, 0), slow", x.late(3, 0), 0);
         is.due("no trains", new PushedOver().late(6, 1), 0);
-        PushedOver all = withDay(new int[12]);
+        PushedOver all = Built.withDay(new int[12]);
         int[] together = {990, 450, 270, 180, 135, 90};
         int[] most = {165, 75, 45, 30, 30, 15};
         for (int n = 1; n <= 6; n++) {
             is.due("twelve at once, together by " + n, all.late(n, 0), together[n - 1]);
             is.due("twelve at once, most by " + n, all.late(n, 1), most[n - 1]);
         }
-        is.due("a train as one comes free", withDay(0, 15).late(1, 0), 0);
+        is.due("a train as one comes free", Built.withDay(0, 15).late(1, 0), 0);
         int[][] wrong = {{0, 0}, {7, 0}, {-1, 1}, {1, 2}, {1, -1}};
         for (int[] w : wrong) {
             is.due("late(" + w[0] + ", " + w[1] + ")", x.late(w[0], w[1]), BAD);
@@ -740,7 +700,7 @@ public final class PromiseTest {
 
     // Promise 28
     private static void enough() {
-        PushedOver all = withDay(new int[12]);
+        PushedOver all = Built.withDay(new int[12]);
         int[][] cases = {{165, 1}, {164, 2}, {75, 2}, {74, 3}, {45, 3}, {44, 4}, {30, 4}, {29, 6}, {15, 6}, {14, NONE}};
         for (int[] c : cases) {
             is.due("enough(" + c[0] + ")", all.enough(c[0]), c[1]);
@@ -812,7 +772,7 @@ public final class PromiseTest {
 
     // Promise 32
     private static void lose() {
-        PushedOver x = withSheet(0, 1, 2, 3);
+        PushedOver x = Built.withSheet(0, 1, 2, 3);
         is.due("lose(0)", x.lose(0), 3);
         is.due("lose(0) again", x.lose(0), NULL);
         is.due("latest finding", x.count(8), 1);
@@ -845,7 +805,7 @@ public final class PromiseTest {
 
     // Promise 34
     private static void get() {
-        PushedOver x = withSheet(1, 5, 6);
+        PushedOver x = Built.withSheet(1, 5, 6);
         is.due("get(0, 1, 1)", x.get(0, 1, 1), 6);
         is.due("get(4, 1, 1)", x.get(4, 1, 1), LEAST);
         is.due("get(-1, 1, 1)", x.get(-1, 1, 1), LEAST);
@@ -871,7 +831,7 @@ public final class PromiseTest {
 
     // Promise 35
     private static void copy() {
-        PushedOver x = withSheet(0, 1, 2, 3, 4, 5);
+        PushedOver x = Built.withSheet(0, 1, 2, 3, 4, 5);
         is.due("on, in itself", x.copy(0, 0, 0, 1, 4), 1);
         dueItems("on, in itself", x, 0, 0, 1, 1, 2, 3, 4);
         is.due("back, in itself", x.copy(0, 2, 0, 0, 3), 1);
@@ -900,8 +860,8 @@ public final class PromiseTest {
 
     // Promise 36
     private static void write() {
-        PushedOver x = with("5", "9", 200, 7);
-        rule(x, 1, 2, 2);
+        PushedOver x = Built.with("5", "9", 200, 7);
+        Built.rule(x, 1, 2, 2);
         x.sheet(0, 1, 4);
         is.due("write(1, 0)", x.write(1, 0), 4);
         dueItems("the back, as shorts", x, 0, 1, 7, 7, 200, 200);
@@ -925,7 +885,7 @@ public final class PromiseTest {
 
     // Promise 37
     private static void count() {
-        PushedOver x = with("1239", "1b05b");
+        PushedOver x = Built.with("1239", "1b05b");
         x.train(9);
         x.train(8);
         x.set(4, 11);
@@ -941,9 +901,9 @@ public final class PromiseTest {
     // Promise 38
     private static void digest() {
         is.due("digest() of a new object", new PushedOver().digest(), mixed(new PushedOver()));
-        PushedOver x = with("91519", "25b9b40", 50, 500);
-        rule(x, 0, 2, 2);
-        rule(x, 1, 3, 3);
+        PushedOver x = Built.with("91519", "25b9b40", 50, 500);
+        Built.rule(x, 0, 2, 2);
+        Built.rule(x, 1, 3, 3);
         x.train(4);
         x.train(3);
         x.lose(0);
@@ -963,9 +923,9 @@ public final class PromiseTest {
 
     /** States in which a call with a number beside the one of the digest answers otherwise. */
     private static void digestsApart() {
-        PushedOver x = with("11", "9b", 100, 50);
-        rule(x, 0, 2, 2);
-        rule(x, 1, 2, 1);
+        PushedOver x = Built.with("11", "9b", 100, 50);
+        Built.rule(x, 0, 2, 2);
+        Built.rule(x, 1, 2, 1);
         for (int tear : new int[] {119, 129, 139}) {
             x.set(0, tear);
             is.due("digest(), TEAR " + tear, x.digest(), mixed(x));
@@ -985,7 +945,7 @@ public final class PromiseTest {
         x.train(2);
         is.due("digest(), three trains", x.digest(), mixed(x));
         for (int lag = 3; lag <= 4; lag++) {
-            rule(x, 0, 2, lag);
+            Built.rule(x, 0, 2, lag);
             is.due("digest(), LAG " + lag, x.digest(), mixed(x));
         }
     }
