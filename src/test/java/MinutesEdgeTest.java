@@ -24,6 +24,7 @@ public final class MinutesEdgeTest {
         settles();
         swings();
         does();
+        nothingGiven();
         is.end();
     }
 
@@ -442,6 +443,33 @@ public final class MinutesEdgeTest {
         is.sentence(19, "DOES: above, below. BAD.");
         for (int wrong : new int[] {-1, 2, Told.LEAST, Told.MOST}) {
             is.due("does(" + wrong + ")", last.does(wrong), Told.BAD);
+        }
+    }
+
+    /** Both give nothing in all MINUTES: by GIVES 0, or by leaning where nothing is NEEDED. */
+    private static void nothingGiven() {
+        PushedOver[] made = {Built.with("915", "0b0b0b", 0, 0),
+            Built.rule(Built.rule(Built.with("915", "0b0b0b", 0, 0), 0, 1, 3), 1, 3, 5)};
+        for (PushedOver x : made) {
+            is.sentence(10, "In each the front engine PULLS, the back engine PUSHES (0 to 999 each).");
+            is.due("gives(39, 0)", x.gives(39, 0), 0);
+            is.due("gives(39, 1)", x.gives(39, 1), 0);
+            is.sentence(12, "0 by 1");
+            dueStrain(x, 0, 0, 1);
+            dueStrain(x, 2, 0, 1);
+            is.sentence(13, "a STRAIN of 0 or less");
+            is.due("slack(39)", x.slack(39), 0);
+            is.sentence(14, "TORN; NONE.");
+            is.due("torn()", x.torn(), Told.NONE);
+            is.sentence(15, "OFF: the MINUTE (what = 0), the WAGON (1); NONE.");
+            is.due("off(0)", x.off(0), Told.NONE);
+            is.sentence(17, "SETTLES: the first MINUTE (38 at most) from which on, to MINUTE 39, both give what they give in it");
+            is.due("settles()", x.settles(), 0);
+            is.sentence(18, "SWINGS: the least number of MINUTES (1 to 12)");
+            is.due("swings()", x.swings(), 1);
+            is.sentence(19, "(0 by 1, where they give nothing)");
+            is.due("does(0)", x.does(0), 0);
+            is.due("does(1)", x.does(1), 1);
         }
     }
 }

@@ -9,6 +9,7 @@ public final class TextsEdgeTest {
         typeUpToFull();
         wipe();
         undo();
+        undoneAsNeverTyped();
         faultOfTrain();
         faultOfHill();
         seventeenthPlace();
@@ -123,6 +124,48 @@ public final class TextsEdgeTest {
         is.due("undo(0) of a new one", new PushedOver().undo(0), Told.NOT);
         is.due("type(0) behind it", x.type(0, '3'), 1);
         is.due("undo(0) of the only one", x.undo(0), 0);
+    }
+
+    /** Pulled and pushed so that little more than what is typed would tear or squeeze something off. */
+    private static PushedOver strained(String train, String hill) {
+        PushedOver x = Built.with(train, hill, 0, 40);
+        x.set(0, 40);
+        return x;
+    }
+
+    private static void undoneAsNeverTyped() {
+        is.sentence(4, "The last byte of a text is undone");
+        String train = "1".repeat(12), hill = "0b".repeat(16);
+        for (int left = 0; left <= 12; left++) {
+            PushedOver x = strained(train, hill);
+            for (int i = left; i < 12; i++) {
+                x.undo(0);
+            }
+            is.holds("WAGONS, " + left + " left", Seen.of(x).equals(Seen.of(strained(train.substring(0, left), hill))));
+        }
+        for (int left = 0; left <= 32; left++) {
+            PushedOver x = strained("11", hill);
+            x.engine(1, 0, 41);
+            for (int i = left; i < 32; i++) {
+                x.undo(1);
+            }
+            PushedOver fresh = strained("11", hill.substring(0, left));
+            fresh.engine(1, 0, 41);
+            is.holds("PLACES, " + left + " bytes left", Seen.of(x).equals(Seen.of(fresh)));
+        }
+        is.sentence(3, "A text is empty");
+        is.holds("wiped", Seen.of(strainedAnew("", "")).equals(Seen.of(strained("", ""))));
+        is.holds("typed anew", Seen.of(strainedAnew("11", "0b0")).equals(Seen.of(strained("11", "0b0"))));
+    }
+
+    /** As strained, typed where full texts have been wiped. */
+    private static PushedOver strainedAnew(String train, String hill) {
+        PushedOver x = strained("1".repeat(12), "0b".repeat(16));
+        x.wipe(0);
+        x.wipe(1);
+        Built.type(x, 0, train);
+        Built.type(x, 1, hill);
+        return x;
     }
 
     private static void faultOfTrain() {
