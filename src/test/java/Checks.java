@@ -9,10 +9,14 @@ final class Checks {
         this.name = name;
     }
 
-    /** The calls from here on are about these words of the document. */
-    void sentence(int promise, String words) {
+    /** The calls from here on are about these words of the document, of a promise or ahead of it. */
+    void sentence(int promise, String... words) {
         closeSentence();
-        about = "promise " + promise + ", \"" + words + "\"";
+        about = "promise " + promise + ", \"" + String.join("\" .. \"", words) + "\"";
+        for (String said : words) {
+            holds("the document says \"" + said + "\"", Document.PROMISED.saysOf(promise, said));
+        }
+        madeAhead = made;
     }
 
     /** A sentence without any call behind it would look tested, so it is told as wrong. */
@@ -20,7 +24,6 @@ final class Checks {
         if (!about.isEmpty() && made == madeAhead) {
             due("the test of this sentence makes calls", 0, 1);
         }
-        madeAhead = made;
     }
 
     void due(String call, long got, long want) {
@@ -36,6 +39,10 @@ final class Checks {
 
     void holds(String what, boolean does) {
         due(what, does ? 1 : 0, 1);
+    }
+
+    int made() {
+        return made;
     }
 
     boolean allWell() {

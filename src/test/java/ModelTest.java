@@ -1,8 +1,8 @@
 import java.util.Random;
 
-/** Runs of calls, the same on PushedOver and on the Model: every answer must be the same. */
+/** Runs of 512 calls, the same on PushedOver and on the Model: every answer must be the same. */
 public final class ModelTest {
-    private static final int RUNS = 400, CALLS = 250;
+    private static final int RUNS = 300, CALLS = 512;
     private final Checks checks = new Checks("ModelTest");
     private final Random random;
     private final PushedOver x = new PushedOver();
@@ -17,7 +17,7 @@ public final class ModelTest {
         for (int seed = 0; seed < RUNS; seed++) {
             ModelTest run = new ModelTest(seed);
             run.begin();
-            for (int i = 0; i < CALLS && run.checks.allWell(); i++) {
+            while (run.checks.made() < CALLS - 1 && run.checks.allWell()) {
                 run.call(run.random.nextInt(40));
             }
             run.digest();

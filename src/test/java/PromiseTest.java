@@ -1,3 +1,6 @@
+import java.util.HashSet;
+import java.util.Set;
+
 /** One method a promise: ordinary calls, the edges that the document names, wrong inputs. */
 public final class PromiseTest {
     private static final int NONE = -1, BAD = -2, NOT = -3, FULL = -4;
@@ -5,6 +8,7 @@ public final class PromiseTest {
     private static final long LONG_BAD = Long.MIN_VALUE + 2, LONG_NOT = Long.MIN_VALUE + 3;
     private static final int LEAST = Integer.MIN_VALUE, MOST = Integer.MAX_VALUE;
     private static final Checks is = new Checks("PromiseTest");
+    private static final Set<Integer> tested = new HashSet<>();
 
     public static void main(String[] args) {
         newObject();
@@ -49,11 +53,20 @@ public final class PromiseTest {
         write();
         count();
         digest();
+        is.due("promises tested", tested.size(), 38);
+        is.due("promises beyond the last one", Document.PROMISED.promise(39).length(), 0);
         is.end();
     }
 
-    // Promise 1
+    /** The calls from here on are about a promise, whose sentence is told whole. */
+    private static void promise(int n, String sentence) {
+        is.sentence(n, sentence);
+        is.holds("this is all of its sentence", Document.PROMISED.promise(n).equals(sentence));
+        tested.add(n);
+    }
+
     private static void newObject() {
+        promise(1, "No TRAIN; all SHEETS are LOST.");
         PushedOver x = new PushedOver();
         int[] counts = {0, 0, 0, 0, 0, 0, 0, 5, 0};
         for (int i = 0; i < counts.length; i++) {
@@ -74,8 +87,8 @@ public final class PromiseTest {
         is.due("constants", PushedOver.NONE * 1000 + PushedOver.BAD * 100 + PushedOver.NOT * 10 + PushedOver.FULL, -1234);
     }
 
-    // Promise 2
     private static void type() {
+        promise(2, "A byte (0 to 255) comes behind a text: how many. BAD; FULL.");
         PushedOver x = new PushedOver();
         for (int i = 1; i <= 12; i++) {
             is.due("type(0, 0)", x.type(0, 0), i);
@@ -98,8 +111,8 @@ public final class PromiseTest {
         is.due("count(3) behind wrong ones", y.count(3), 0);
     }
 
-    // Promise 3
     private static void wipe() {
+        promise(3, "A text is empty: how many bytes it had. BAD.");
         PushedOver x = Built.with("123", "4b5");
         is.due("wipe(0)", x.wipe(0), 3);
         is.due("count(0)", x.count(0), 0);
@@ -113,8 +126,8 @@ public final class PromiseTest {
         is.due("wagon(0) behind wipe", x.wagon(0), 7);
     }
 
-    // Promise 4
     private static void undo() {
+        promise(4, "The last byte of a text is undone: how many are left. BAD; NOT: it is empty.");
         PushedOver x = Built.with("12", "4b");
         is.due("undo(0)", x.undo(0), 1);
         is.due("wagon(0)", x.wagon(0), 1);
@@ -127,8 +140,8 @@ public final class PromiseTest {
         is.due("undo(-1)", x.undo(-1), BAD);
     }
 
-    // Promise 5
     private static void faultOfTrain() {
+        promise(5, "The FAULT of a text; NONE. BAD.");
         is.due("fault of ''", Built.with("", "").fault(0), NONE);
         is.due("fault of 123456789123", Built.with("123456789123", "").fault(0), NONE);
         is.due("fault of 0", Built.with("0", "").fault(0), 0);
@@ -144,8 +157,8 @@ public final class PromiseTest {
         is.due("fault(2)", x.fault(2), BAD);
     }
 
-    // Promise 5
     private static void faultOfHill() {
+        promise(5, "The FAULT of a text; NONE. BAD.");
         is.due("fault of no hill", Built.with("", "").fault(1), NONE);
         is.due("fault of 0b9", Built.with("", "0b9").fault(1), NONE);
         is.due("fault of b", Built.with("", "b").fault(1), 0);
@@ -169,8 +182,8 @@ public final class PromiseTest {
         is.due("bytes with a fault", y.count(3), 5);
     }
 
-    // Promise 6
     private static void wagon() {
+        promise(6, "WEIGHT of a WAGON. BAD.");
         PushedOver x = Built.with("91", "");
         is.due("wagon(0)", x.wagon(0), 9);
         is.due("wagon(1)", x.wagon(1), 1);
@@ -181,8 +194,8 @@ public final class PromiseTest {
         is.due("wagon(11)", Built.with("111111111118", "").wagon(11), 8);
     }
 
-    // Promise 7
     private static void hill() {
+        promise(7, "How STEEP a PLACE is (what = 0), whether there is a BEND (1). BAD.");
         PushedOver x = Built.with("", "0b93b");
         int[][] due = {{0, 1}, {9, 0}, {3, 1}};
         for (int place = 0; place < 3; place++) {
@@ -195,8 +208,8 @@ public final class PromiseTest {
         }
     }
 
-    // Promise 8
     private static void engine() {
+        promise(8, "GIVES (what = 0), RULE (1), LAG (2) of an engine: what it was. BAD.");
         PushedOver x = new PushedOver();
         int[] least = {0, 0, 1}, most = {999, 3, 5};
         for (int e = 0; e < 2; e++) {
@@ -217,8 +230,8 @@ public final class PromiseTest {
         is.due("the back gives its own", y.gives(0, 1), 22);
     }
 
-    // Promise 9
     private static void set() {
+        promise(9, "TEAR (what = 0), HOLD (1), UP (2), DOWN (3), SPEED in MINUTE 0 (4): what it was. BAD.");
         PushedOver x = new PushedOver();
         int[] least = {1, 1, 1, 1, 0}, most = {999, 99, 99, 99, 20};
         for (int what = 0; what < 5; what++) {
@@ -233,8 +246,8 @@ public final class PromiseTest {
         is.due("count(7)", x.count(7), 0);
     }
 
-    // Promise 10
     private static void givesByRules() {
+        promise(10, "What an engine gives in a MINUTE. BAD.");
         PushedOver x = Built.with("5", "9", 30, 10);
         Built.rule(x, 1, 1, 2);
         dueRow("leans", x, 1, 10, 10, 15, 15);
@@ -254,8 +267,8 @@ public final class PromiseTest {
         }
     }
 
-    // Promise 10
     private static void givesLate() {
+        promise(10, "What an engine gives in a MINUTE. BAD.");
         PushedOver x = Built.with("5", "9", 30, 10);
         Built.rule(x, 0, 2, 2);
         Built.rule(x, 1, 2, 3);
@@ -277,8 +290,8 @@ public final class PromiseTest {
         }
     }
 
-    // Promise 11
     private static void minuteNeededAndPlace() {
+        promise(11, "NEEDED (what = 0), SPEED (1), the PLACE (2; NONE: beyond the last, or there are none). BAD.");
         PushedOver x = Built.with("12", "071", 0, 0);
         x.set(4, 20);
         // Nothing is given: 20 in minute 0 and, where nothing is needed, 20 again in minute 1.
@@ -302,8 +315,8 @@ public final class PromiseTest {
         }
     }
 
-    // Promise 11
     private static void minuteSpeed() {
+        promise(11, "NEEDED (what = 0), SPEED (1), the PLACE (2; NONE: beyond the last, or there are none). BAD.");
         PushedOver x = Built.with("9", "9", 0, 0);
         for (int m = 0; m < 40; m++) {
             is.due("slower, minute " + m, x.minute(m, 1), Math.max(0, 5 - m));
@@ -320,8 +333,8 @@ public final class PromiseTest {
         is.due("80 are less than 81", x.minute(1, 1), 4);
     }
 
-    // Promise 12
     private static void strain() {
+        promise(12, "STRAIN: above, below. BAD; NOT. (As the least long.)");
         PushedOver x = Built.with("123", "", 100, 50);
         int[] due = {100, 75, 25, -50};
         for (int k = 0; k < due.length; k++) {
@@ -348,8 +361,8 @@ public final class PromiseTest {
         is.due("no wagons, no such what", none.strain(0, 0, 2), LONG_BAD);
     }
 
-    // Promise 13
     private static void slack() {
+        promise(13, "SLACK; NONE. BAD; NOT.");
         PushedOver x = Built.with("11", "", 100, 100);
         is.due("slack at a strain of 0", x.slack(0), 1);
         x.engine(0, 0, 101);
@@ -368,8 +381,8 @@ public final class PromiseTest {
         is.due("slack, pushed by then", y.slack(3), 1);
     }
 
-    // Promise 14
     private static void torn() {
+        promise(14, "TORN; NONE.");
         PushedOver x = Built.with("1", "", 300, 999);
         is.due("as much as TEAR", x.torn(), NONE);
         x.set(0, 299);
@@ -384,8 +397,8 @@ public final class PromiseTest {
         is.due("no wagons", x.torn(), NONE);
     }
 
-    // Promise 15
     private static void off() {
+        promise(15, "OFF: the MINUTE (what = 0), the WAGON (1); NONE. BAD.");
         PushedOver x = Built.with("11", "0b", 0, 40);
         is.due("as much as HOLD", x.off(0), NONE);
         is.due("as much as HOLD: no wagon", x.off(1), NONE);
@@ -407,8 +420,8 @@ public final class PromiseTest {
         is.due("no wagons", Built.with("", "0b", 0, 999).off(0), NONE);
     }
 
-    // Promise 15
     private static void offAtBendsAlone() {
+        promise(15, "OFF: the MINUTE (what = 0), the WAGON (1); NONE. BAD.");
         is.due("no bend", Built.with("11", "000", 0, 999).off(0), NONE);
         PushedOver x = Built.with("11", "00b", 0, 999);
         is.due("at the bend", x.off(0), 2);
@@ -426,8 +439,8 @@ public final class PromiseTest {
         is.due("but in one with a bend: wagon", y.off(1), 1);
     }
 
-    // Promise 16
     private static void over() {
+        promise(16, "OVER; NONE.");
         PushedOver x = Built.with("1", "0", 0, 0);
         x.set(4, 10);
         is.due("a place in a minute", x.over(), 1);
@@ -453,8 +466,8 @@ public final class PromiseTest {
         return x;
     }
 
-    // Promise 17
     private static void settles() {
+        promise(17, "SETTLES; NONE.");
         is.due("always the same", Built.with("1", "5").settles(), 0);
         PushedOver x = Built.with("1", "", 100, 0);
         Built.rule(x, 1, 2, 5);
@@ -472,8 +485,8 @@ public final class PromiseTest {
         is.due("to and fro", z.settles(), NONE);
     }
 
-    // Promise 18
     private static void swings() {
+        promise(18, "SWINGS; NONE.");
         is.due("always the same", Built.with("1", "5").swings(), 1);
         PushedOver x = Built.with("1", "", 100, 0);
         for (int lag = 1; lag <= 5; lag++) {
@@ -501,8 +514,8 @@ public final class PromiseTest {
         is.due("settled in minute 25", leaning("000001", 2).swings(), NONE);
     }
 
-    // Promise 19
     private static void does() {
+        promise(19, "DOES: above, below. BAD.");
         int[][] cases = {{100, 50, 2, 3}, {0, 0, 0, 1}, {0, 5, 0, 1}, {5, 0, 1, 1}, {999, 998, 999, 1997}};
         for (int[] c : cases) {
             PushedOver x = Built.with("1", "", c[0], c[1]);
@@ -518,8 +531,8 @@ public final class PromiseTest {
         is.due("does(-1)", x.does(-1), BAD);
     }
 
-    // Promise 20
     private static void start() {
+        promise(20, "START: 0, 1, 2. BAD.");
         PushedOver x = Built.with("11", "", 100, 100);
         is.due("together", x.start(0, 0), 0);
         is.due("together, later", x.start(9, 9), 0);
@@ -548,8 +561,8 @@ public final class PromiseTest {
         }
     }
 
-    // Promise 21
     private static void safe() {
+        promise(21, "SAFE: in how many (what = 0), the least (1; NONE). BAD.");
         PushedOver x = Built.with("11", "", 100, 100);
         is.due("not the back alone", x.safe(0), 55);
         is.due("not the back alone, least", x.safe(1), 0);
@@ -564,8 +577,8 @@ public final class PromiseTest {
         is.due("safe(-1)", x.safe(-1), BAD);
     }
 
-    // Promise 22
     private static void order() {
+        promise(22, "ORDER: the i-th WAGON (0 to 5; NONE). BAD.");
         PushedOver x = Built.with("21", "", 0, 60);
         is.due("the light one ahead", x.order(0), 1);
         is.due("the heavy one behind", x.order(1), 0);
@@ -598,8 +611,8 @@ public final class PromiseTest {
         }
     }
 
-    // Promise 23
     private static void squeeze() {
+        promise(23, "SQUEEZE by ORDER: above, below (0 by 1: no WAGONS, more than 6). BAD.");
         PushedOver x = Built.with("21", "", 0, 60);
         is.due("20 by 2, above", x.squeeze(0), 10);
         is.due("20 by 2, below", x.squeeze(1), 1);
@@ -620,8 +633,8 @@ public final class PromiseTest {
         is.due("squeeze(-1)", x.squeeze(-1), BAD);
     }
 
-    // Promise 24
     private static void train() {
+        promise(24, "A TRAIN of the day more: how many. BAD; FULL.");
         PushedOver x = new PushedOver();
         is.due("train(-1)", x.train(-1), BAD);
         is.due("train(1000)", x.train(1000), BAD);
@@ -634,8 +647,8 @@ public final class PromiseTest {
         is.due("twelve", x.count(4), 12);
     }
 
-    // Promise 25
     private static void back() {
+        promise(25, "The last TRAIN of the day is undone: how many are left. NOT: there is none.");
         PushedOver x = new PushedOver();
         is.due("back() of none", x.back(), NOT);
         x.train(50);
@@ -649,8 +662,8 @@ public final class PromiseTest {
         is.due("back() of none", x.back(), NOT);
     }
 
-    // Promise 26
     private static void read() {
+        promise(26, "TRAINS of the day by a SHEET, item by item, as long as each may be: how many. BAD; NULL.");
         PushedOver x = Built.withSheet(1, 0, 999, 1000, 5);
         is.due("read(0), up to 1000", x.read(0), 2);
         is.due("trains", x.count(4), 2);
@@ -670,8 +683,8 @@ public final class PromiseTest {
         is.due("read(-1)", y.read(-1), BAD);
     }
 
-    // Promise 27
     private static void late() {
+        promise(27, "LATE: together (what = 0), the most (1). BAD.");
         PushedOver x = Built.withDay(20, 0, 3);
         // One pusher is busy for 15 minutes: 0 at 0, 3 at 15, 20 at 30.
         is.due("late(1, 0)", x.late(1, 0), 22);
@@ -698,8 +711,8 @@ public final class PromiseTest {
         }
     }
 
-    // Promise 28
     private static void enough() {
+        promise(28, "ENOUGH; NONE. BAD.");
         PushedOver all = Built.withDay(new int[12]);
         int[][] cases = {{165, 1}, {164, 2}, {75, 2}, {74, 3}, {45, 3}, {44, 4}, {30, 4}, {29, 6}, {15, 6}, {14, NONE}};
         for (int[] c : cases) {
@@ -712,8 +725,8 @@ public final class PromiseTest {
         is.due("enough(1000)", all.enough(1000), BAD);
     }
 
-    // Promise 29
     private static void whistles() {
+        promise(29, "WHISTLES: above, below. BAD (j 0 to k). (As the least long.)");
         PushedOver x = new PushedOver();
         is.due("whistles(5, 7, 3, 0)", x.whistles(5, 7, 3, 0), 138915);
         is.due("whistles(5, 7, 3, 1)", x.whistles(5, 7, 3, 1), 524288);
@@ -733,8 +746,8 @@ public final class PromiseTest {
         }
     }
 
-    // Promise 30
     private static void words() {
+        promise(30, "WORDS. BAD.");
         PushedOver x = new PushedOver();
         int[] due = {9, 5, 3, 3, 2, 2, 2, 2, 1, 1};
         for (int m = 0; m < due.length; m++) {
@@ -745,8 +758,8 @@ public final class PromiseTest {
         is.due("words(most)", x.words(MOST), BAD);
     }
 
-    // Promise 31
     private static void sheet() {
+        promise(31, "A SHEET is a new row of a FORM with n items: n. BAD: SHEET, FORM, above 60; SIZE.");
         PushedOver x = new PushedOver();
         for (int form = 0; form < 3; form++) {
             is.due("sheet(3, form, 60)", x.sheet(3, form, 60), 60);
@@ -770,8 +783,8 @@ public final class PromiseTest {
         is.due("it has not changed", x.lose(0), 4);
     }
 
-    // Promise 32
     private static void lose() {
+        promise(32, "It is LOST: how many items it had. BAD; NULL.");
         PushedOver x = Built.withSheet(0, 1, 2, 3);
         is.due("lose(0)", x.lose(0), 3);
         is.due("lose(0) again", x.lose(0), NULL);
@@ -781,8 +794,9 @@ public final class PromiseTest {
         is.due("lose(4)", x.lose(4), BAD);
     }
 
-    // Promise 33
     private static void lay() {
+        promise(33, "Item i, treated as of a FORM, becomes v (the lowest bits that it has): 1. BAD; NULL; "
+            + "CAST; INDEX.");
         PushedOver x = new PushedOver();
         int[][] cases = {{0, 200, -56}, {0, 256, 0}, {0, -129, 127}, {1, 40000, -25536}, {1, 65536, 0},
             {1, 200, 200}, {2, LEAST, LEAST}, {2, 65536, 65536}};
@@ -803,8 +817,8 @@ public final class PromiseTest {
         is.due("latest finding", x.count(8), 2);
     }
 
-    // Promise 34
     private static void get() {
+        promise(34, "Item i of it. BAD: the least int; so are NULL, CAST, INDEX (count() 8 tells).");
         PushedOver x = Built.withSheet(1, 5, 6);
         is.due("get(0, 1, 1)", x.get(0, 1, 1), 6);
         is.due("get(4, 1, 1)", x.get(4, 1, 1), LEAST);
@@ -829,8 +843,9 @@ public final class PromiseTest {
         }
     }
 
-    // Promise 35
     private static void copy() {
+        promise(35, "n items of SHEET s, from i on, come to SHEET t (perhaps s, as they were), from j on: "
+            + "1. BAD: the SHEETS; NULL: s, t; STORE; INDEX: below 0, not so many.");
         PushedOver x = Built.withSheet(0, 1, 2, 3, 4, 5);
         is.due("on, in itself", x.copy(0, 0, 0, 1, 4), 1);
         dueItems("on, in itself", x, 0, 0, 1, 1, 2, 3, 4);
@@ -858,8 +873,9 @@ public final class PromiseTest {
         dueItems("nothing has changed", x, 1, 0, 3, 4);
     }
 
-    // Promise 36
     private static void write() {
+        promise(36, "What an engine gives in MINUTES 0 on comes to a SHEET from item 0 on, as many as there"
+            + " are items, 40 at most: how many. BAD; NULL.");
         PushedOver x = Built.with("5", "9", 200, 7);
         Built.rule(x, 1, 2, 2);
         x.sheet(0, 1, 4);
@@ -883,8 +899,9 @@ public final class PromiseTest {
         }
     }
 
-    // Promise 37
     private static void count() {
+        promise(37, "0 WAGONS, 1 PLACES, 2, 3 bytes of texts, 4 TRAINS of the day, 5 WHOLE, 6 BENDS, 7 "
+            + "SPEED in MINUTE 0, 8 the number of the latest FINDING (0 before any). BAD.");
         PushedOver x = Built.with("1239", "1b05b");
         x.train(9);
         x.train(8);
@@ -898,8 +915,13 @@ public final class PromiseTest {
         is.due("count(9)", x.count(9), BAD);
     }
 
-    // Promise 38
     private static void digest() {
+        promise(38, "h is 17; h becomes 31 h and each of: count() 0 to 7; of texts fault(); of WAGONS "
+            + "wagon(), strain(3, it, 0 and 1); of PLACES hill() 0, 1; of MINUTES 0, 1, 7, 39 gives()"
+            + " 0, 1, minute() 0 to 2, slack() (as it is told); torn(), off() 0, 1, over(), "
+            + "settles(), swings(), does(), above, below, start(0, 3), start(4, 1), safe() 0, 1, "
+            + "order() 0, 1, squeeze(), above, below; of n 1 to 6 late() 0, 1; enough(9), whistles(5,"
+            + " 7, 3), above, below, words(1); as longs that wrap.");
         is.due("digest() of a new object", new PushedOver().digest(), mixed(new PushedOver()));
         PushedOver x = Built.with("91519", "25b9b40", 50, 500);
         Built.rule(x, 0, 2, 2);

@@ -60,24 +60,24 @@ public final class RefusalTest {
     }
 
     private static void texts() {
-        is.sentence(2, FIRST + ": BAD; FULL");
+        is.sentence(2, FIRST, "BAD; FULL");
         refused("type(2, 49), both full", Built::full, x -> x.type(2, 49), Told.BAD);
         refused("type(0, 256), full", Built::full, x -> x.type(0, 256), Told.BAD);
         refused("type(1, -1), full", Built::full, x -> x.type(1, -1), Told.BAD);
         refused("type(0, 49), full", Built::full, x -> x.type(0, 49), Told.FULL);
         refused("type(1, 49), full", Built::full, x -> x.type(1, 49), Told.FULL);
-        is.sentence(3, FIRST + ": BAD");
+        is.sentence(3, FIRST, "BAD");
         refused("wipe(2)", Built::full, x -> x.wipe(2), Told.BAD);
         refused("wipe(-1), with faults", Built::faulty, x -> x.wipe(-1), Told.BAD);
-        is.sentence(4, FIRST + ": BAD; NOT");
+        is.sentence(4, FIRST, "BAD; NOT");
         refused("undo(2), both empty", PushedOver::new, x -> x.undo(2), Told.BAD);
         refused("undo(0), empty", PushedOver::new, x -> x.undo(0), Told.NOT);
         refused("undo(1), empty", PushedOver::new, x -> x.undo(1), Told.NOT);
-        is.sentence(8, FIRST + ": BAD");
+        is.sentence(8, FIRST, "BAD");
         refused("engine(2, 3, -1)", Built::full, x -> x.engine(2, 3, -1), Told.BAD);
         refused("engine(0, 2, 6)", Built::full, x -> x.engine(0, 2, 6), Told.BAD);
         refused("engine(1, 0, 1000)", Built::full, x -> x.engine(1, 0, 1000), Told.BAD);
-        is.sentence(9, FIRST + ": BAD");
+        is.sentence(9, FIRST, "BAD");
         refused("set(5, 1)", Built::full, x -> x.set(5, 1), Told.BAD);
         refused("set(4, 21)", Built::full, x -> x.set(4, 21), Told.BAD);
         refused("set(0, 0)", Built::full, x -> x.set(0, 0), Told.BAD);
@@ -90,7 +90,7 @@ public final class RefusalTest {
         refused("strain(0, 0, 0), no wagons", PushedOver::new, x -> x.strain(0, 0, 0), -9223372036854775805L);
         is.sentence(29, told);
         refused("whistles(10, 0, 0, 0)", Built::full, x -> x.whistles(10, 0, 0, 0), -9223372036854775806L);
-        is.sentence(12, FIRST + ": BAD; NOT");
+        is.sentence(12, FIRST, "BAD; NOT");
         refused("strain(40, 0, 0), no wagons", PushedOver::new, x -> x.strain(40, 0, 0), Told.LONG_BAD);
         refused("strain(0, 1, 0), no wagons", PushedOver::new, x -> x.strain(0, 1, 0), Told.LONG_BAD);
         refused("strain(0, 0, 2), no wagons", PushedOver::new, x -> x.strain(0, 0, 2), Told.LONG_BAD);
@@ -98,24 +98,24 @@ public final class RefusalTest {
     }
 
     private static void minutes() {
-        is.sentence(13, FIRST + ": BAD; NOT");
+        is.sentence(13, FIRST, "BAD; NOT");
         refused("slack(40), no wagons", PushedOver::new, x -> x.slack(40), Told.BAD);
         refused("slack(-1), a fault", Built::faulty, x -> x.slack(-1), Told.BAD);
         refused("slack(39), no wagons", PushedOver::new, x -> x.slack(39), Told.NOT);
         refused("slack(0), a fault", Built::faulty, x -> x.slack(0), Told.NOT);
-        is.sentence(15, FIRST + ": BAD");
+        is.sentence(15, FIRST, "BAD");
         refused("off(2), where NONE is", PushedOver::new, x -> x.off(2), Told.BAD);
-        is.sentence(21, FIRST + ": BAD");
+        is.sentence(21, FIRST, "BAD");
         refused("safe(2), where NONE is", () -> Built.with("1", "", 999, 999), x -> x.safe(2), Told.BAD);
-        is.sentence(22, FIRST + ": BAD");
+        is.sentence(22, FIRST, "BAD");
         refused("order(6), where NONE is", Built::full, x -> x.order(6), Told.BAD);
         refused("order(-1), no wagons", PushedOver::new, x -> x.order(-1), Told.BAD);
-        is.sentence(28, FIRST + ": BAD");
+        is.sentence(28, FIRST, "BAD");
         refused("enough(-1), where NONE is", Built::full, x -> x.enough(-1), Told.BAD);
     }
 
     private static void day() {
-        is.sentence(24, FIRST + ": BAD; FULL");
+        is.sentence(24, FIRST, "BAD; FULL");
         refused("train(1000), full", Built::full, x -> x.train(1000), Told.BAD);
         refused("train(-1), full", Built::full, x -> x.train(-1), Told.BAD);
         refused("train(0), full", Built::full, x -> x.train(0), Told.FULL);
@@ -125,7 +125,7 @@ public final class RefusalTest {
     }
 
     private static void read() {
-        is.sentence(26, FIRST + ": BAD; NULL");
+        is.sentence(26, FIRST, "BAD; NULL");
         refused("read(4), all lost", PushedOver::new, x -> x.read(4), Told.BAD);
         refused("read(-1), all lost", PushedOver::new, x -> x.read(-1), Told.BAD);
         refused("read(3), lost", Built::full, x -> x.read(3), Told.NULL);
@@ -133,7 +133,7 @@ public final class RefusalTest {
     }
 
     private static void sheet() {
-        is.sentence(31, FIRST + ": BAD: SHEET, FORM, above 60; SIZE.");
+        is.sentence(31, FIRST, "BAD: SHEET, FORM, above 60; SIZE.");
         for (int n : new int[] {-1, Told.LEAST, 0, 61, Told.MOST}) {
             refused("sheet(4, 0, " + n + ")", Built::full, x -> x.sheet(4, 0, n), Told.BAD);
             refused("sheet(0, 3, " + n + ")", Built::full, x -> x.sheet(0, 3, n), Told.BAD);
@@ -148,7 +148,7 @@ public final class RefusalTest {
     }
 
     private static void lose() {
-        is.sentence(32, FIRST + ": BAD; NULL");
+        is.sentence(32, FIRST, "BAD; NULL");
         refused("lose(4), all lost", PushedOver::new, x -> x.lose(4), Told.BAD);
         refused("lose(-1), all lost", PushedOver::new, x -> x.lose(-1), Told.BAD);
         for (int s = 0; s < 4; s++) {
@@ -173,7 +173,7 @@ public final class RefusalTest {
                 for (int i : new int[] {Told.LEAST, -1, 60, Told.MOST}) {
                     int due = dueOfItem(s, form, i);
                     String numbers = "(" + s + ", " + form + ", " + i;
-                    is.sentence(33, FIRST + ": BAD; NULL; CAST; INDEX");
+                    is.sentence(33, FIRST, "BAD; NULL; CAST; INDEX");
                     refused("lay" + numbers + ", 7)", Built::full, x -> x.lay(s, form, i, 7), due);
                     is.sentence(34, "BAD: the least int; so are NULL, CAST, INDEX (count() 8 tells).");
                     refusedGet("get" + numbers + ")", x -> x.get(s, form, i), due);
@@ -190,7 +190,7 @@ public final class RefusalTest {
     }
 
     private static void copy() {
-        is.sentence(35, FIRST + ": BAD: the SHEETS; NULL: s, t; STORE; INDEX: below 0, not so many.");
+        is.sentence(35, FIRST, "BAD: the SHEETS; NULL: s, t; STORE; INDEX: below 0, not so many.");
         int[][] unfit = {{-1, 0, 0}, {0, -1, 0}, {0, 0, -1}, {BEYOND, BEYOND, BEYOND}};
         int[] some = {Told.LEAST, -1, 0, 1, 2, 3, 4, Told.MOST};
         for (int s : some) {
@@ -208,7 +208,7 @@ public final class RefusalTest {
     }
 
     private static void write() {
-        is.sentence(36, FIRST + ": BAD; NULL");
+        is.sentence(36, FIRST, "BAD; NULL");
         for (int s : new int[] {-1, 0, 3, 4}) {
             refused("write(2, " + s + ")", Built::full, x -> x.write(2, s), Told.BAD);
             refused("write(-1, " + s + ")", Built::full, x -> x.write(-1, s), Told.BAD);

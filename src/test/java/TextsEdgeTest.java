@@ -18,7 +18,6 @@ public final class TextsEdgeTest {
         hill();
         engine();
         set();
-        calls();
         is.end();
     }
 
@@ -384,16 +383,5 @@ public final class TextsEdgeTest {
         for (int wrong : new int[] {-1, 5, Told.LEAST, Told.MOST}) {
             is.due("set(" + wrong + ", 1)", x.set(wrong, 1), Told.BAD);
         }
-    }
-
-    private static void calls() {
-        is.sentence(1, "An object is used for at most 512 calls after it has been made");
-        PushedOver x = new PushedOver();
-        for (int i = 0; i < 255; i++) {
-            is.due("type", x.type(0, '4'), 1);
-            is.due("undo", x.undo(0), 0);
-        }
-        is.due("call 511", x.type(0, '4'), 1);
-        is.due("call 512", x.wagon(0), 4);
     }
 }
